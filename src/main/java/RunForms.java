@@ -61,21 +61,18 @@ public final class RunForms {
     }
 
     public int pack(int how) {
-        int length = size(how);
-        if (length >= 0) {
-            coded.become(packer.packed);
+        int refusal = packRefusal(how);
+        if (refusal != 0) {
+            return refusal;
         }
-        return length;
+        packer.make(source, how);
+        coded.become(packer.packed);
+        return coded.count;
     }
 
     public int size(int how) {
-        if (how != GREEDY && how != FEWEST) {
-            return BAD;
-        }
-        if (!rules.isWhole(source.count)) {
-            return STATE;
-        }
-        return packer.make(source, how);
+        int refusal = packRefusal(how);
+        return refusal != 0 ? refusal : packer.make(source, how);
     }
 
     public int open() {
@@ -160,6 +157,13 @@ public final class RunForms {
             row.add(v);
         }
         return row.count;
+    }
+
+    private int packRefusal(int how) {
+        if (how != GREEDY && how != FEWEST) {
+            return BAD;
+        }
+        return rules.isWhole(source.count) ? 0 : STATE;
     }
 
     private Octets rowOf(int which) {
@@ -398,7 +402,8 @@ public final class RunForms {
                 return;
             }
             fewest[here] = ENDLESS;
-            for (int many = mostThemselves(here); many >= leastThemselves(); many--) {
+            int most = beginsWithMark(here) ? 0 : Math.min(mostThemselves(), end - here);
+            for (int many = most; many >= leastThemselves(); many--) {
                 offer(here, THEMSELVES, many, lengthThemselves(many));
             }
             // A shorter run is never better: what is left never takes fewer bytes for being longer.
@@ -431,16 +436,9 @@ public final class RunForms {
             } else if (greedyTakesRun(here, run)) {
                 choose(here, RUN, run);
             } else {
-                chooseGreedyThemselves(here);
-            }
-        }
-
-        void chooseGreedyThemselves(int here) {
-            int many = greedyThemselves(here);
-            if (many >= leastThemselves()) {
-                choose(here, THEMSELVES, many);
-            } else {
-                choose(here, RUN, 1);
+                int many = greedyThemselves(here);
+                boolean enough = many >= leastThemselves();
+                choose(here, enough ? THEMSELVES : RUN, enough ? many : 1);
             }
         }
 
@@ -457,9 +455,9 @@ public final class RunForms {
 
         int greedyThemselves(int here) {
             int runFrom = rules.form == ROWS ? 3 : 2;
-            int most = mostThemselves(here);
+            int most = Math.min(mostThemselves(), rest - here);
             int many = 1;
-            while (many < most && here + many < rest && alike[here + many] < runFrom) {
+            while (many < most && alike[here + many] < runFrom) {
                 many++;
             }
             return many;
@@ -477,19 +475,19 @@ public final class RunForms {
             return rules.form == ROWS ? 3 : 1;
         }
 
-        int mostThemselves(int here) {
+        int mostThemselves() {
             switch (rules.form) {
                 case MARKED:
-                    return beginsWithMark(here) ? 0 : 1;
+                    return 1;
                 case SIGNED:
-                    return Math.min(SIGNED_MOST, end - here);
+                    return SIGNED_MOST;
                 default:
-                    return Math.min(MOST, end - here);
+                    return MOST;
             }
         }
 
         boolean beginsWithMark(int here) {
-            return rules.byteOf(units[here], 0) == rules.mark;
+            return rules.form == MARKED && rules.byteOf(units[here], 0) == rules.mark;
         }
 
         int lengthRun() {
