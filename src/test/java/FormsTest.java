@@ -153,6 +153,8 @@ public final class FormsTest {
         opens("by both", Made.rowCode(3, 1, 9, 0, 2, 1, 1, 1, 8, 0, 1), "9 0 0 0 0 8");
         opens("at first", Made.rowCode(3, 0, 2, 2, 0, 1, 8, 0, 1), "0 0 8");
         opens("twice", Made.rowCode(3, 0, 2, 1, 0, 0, 2, 1, 1, 1, 8, 0, 1), "0 0 0 0 0 8");
+        opens("twice by rows", Made.rowCode(2, 0, 2, 0, 1, 0, 2, 0, 1, 1, 8, 0, 1), "0 0 0 0 8 0");
+        opens("by rows behind a row's END", Made.rowCode(2, 0, 0, 0, 2, 0, 1, 1, 8, 0, 1), "0 0 0 0 8 0");
         opens("a row's END goes to its beginning", Made.rowCode(3, 0, 2, 2, 0, 0, 0, 1, 8, 0, 1), "0 0 0 8 0 0");
         RunForms x = Made.rowCode(1, 0, 2, 0, 239, 1, 8, 0, 1);
         due("239 rows", x.open(), 240);

@@ -193,6 +193,10 @@ public final class PackingTest {
         packs("a byte of the row's END", Made.rows(4, 1, 2, 3, 0), FEWEST, "0 4 1 2 3 0 0 0 0 1");
         packs("one byte of it, not two", Made.rows(5, 1, 2, 3, 0, 0), FEWEST, "0 4 1 2 3 0 0 0 0 1");
         packs("five, not four and a run", Made.rows(5, 1, 2, 3, 4, 5), FEWEST, "0 5 1 2 3 4 5 0 0 0 0 1");
+        packs("twelve, not four, a run and four", Made.rows(12, 1, 2, 3, 4, 9, 9, 9, 9, 5, 6, 7, 8), FEWEST,
+                "0 12 1 2 3 4 9 9 9 9 5 6 7 8 0 0 0 1");
+        packs("but four, a run and four for thirteen", Made.rows(13, 1, 2, 3, 4, 9, 9, 9, 9, 9, 5, 6, 7, 8), FEWEST,
+                "0 4 1 2 3 4 5 9 0 4 5 6 7 8 0 0 0 1");
         packs("eight, not five and a run", Made.rows(8, 1, 2, 3, 4, 5, 6, 6, 6), FEWEST,
                 "0 8 1 2 3 4 5 6 6 6 0 0 0 1");
     }
@@ -266,6 +270,8 @@ public final class PackingTest {
         checks.sentence("in FORM 1 all up to ahead of the next two like UNITS, 128 at most");
         packs("none like", Made.source(1, 1, 2, 1, 2), GREEDY, "3 1 2 1 2");
         packs("two like at the end", Made.source(1, 1, 2, 3, 3), GREEDY, "1 1 2 255 3");
+        packs("three like at the end", Made.source(1, 1, 2, 3, 3, 3), GREEDY, "1 1 2 254 3");
+        packs("four like in the middle", Made.source(1, 1, 2, 3, 3, 3, 3, 4), GREEDY, "1 1 2 253 3 0 4");
         packs("two like at once", Made.source(1, 1, 1, 2), GREEDY, "255 1 0 2");
         packs("like bytes, not UNITS", Made.with(Made.source(1, 5, 5, 5, 6), 0, 2), GREEDY, "1 5 5 5 6");
         packs("127, then two like", signedAheadOfTwo(127), GREEDY,
@@ -286,6 +292,8 @@ public final class PackingTest {
         checks.sentence("in FORM 2 all up to ahead of the next three like bytes or where the row may END (255 at "
                 + "most), if these are 3 or more, else this byte as a run of 1");
         packs("three ahead of three", Made.rows(6, 1, 2, 3, 9, 9, 9), GREEDY, "0 3 1 2 3 0 3 9 0 0 0 1");
+        packs("three ahead of four", Made.rows(7, 1, 2, 3, 9, 9, 9, 9), GREEDY, "0 3 1 2 3 0 4 9 0 0 0 1");
+        packs("two ahead of four", Made.rows(6, 1, 2, 9, 9, 9, 9), GREEDY, "1 1 1 2 4 9 0 0 0 1");
         packs("two ahead of three", Made.rows(5, 1, 2, 9, 9, 9), GREEDY, "1 1 1 2 3 9 0 0 0 1");
         packs("one ahead of three", Made.rows(4, 1, 9, 9, 9), GREEDY, "1 1 3 9 0 0 0 1");
         packs("two like ones ahead of three", Made.rows(6, 9, 9, 8, 8, 8, 0), GREEDY, "1 9 1 9 3 8 0 0 0 1");

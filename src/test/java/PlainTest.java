@@ -180,6 +180,9 @@ public final class PlainTest {
         copies("bytes put over what is beyond W", x, 7, FINE, 6, "1 2 3 5 6 7 0");
         copies("x beyond W", Made.rowCode(3, 1, 7, 0, 2, 5, 0, 1, 8, 0, 1), 7, FINE, 7, "7 0 0 0 0 0 8");
         copies("x beyond W, a row later", Made.rowCode(3, 0, 2, 4, 1, 1, 8, 0, 1), 8, FINE, 8, "0 0 0 0 0 0 0 8");
+        copies("rows later, twice", Made.rowCode(2, 0, 2, 1, 1, 0, 2, 0, 1, 1, 8, 0, 1), 6, FINE, 6, "0 0 0 0 0 8");
+        copies("a row's END, then a row later", Made.rowCode(2, 1, 7, 0, 0, 0, 2, 1, 1, 1, 8, 0, 1), 6, FINE, 6,
+                "7 0 0 0 0 8");
         copies("rows of 1", Made.rowCode(1, 0, 2, 0, 3, 1, 8, 0, 1), 4, FINE, 4, "0 0 0 8");
         copies("a 0 that is put", Made.rowCode(3, 2, 9, 0, 2, 1, 0, 2, 0, 0, 0, 1, 0, 0, 1), 6, FINE, 5,
                 "9 9 0 0 0 0");
@@ -213,6 +216,7 @@ public final class PlainTest {
         copies("behind one by itself", Made.code(1, 0, 7), 1, FINE, 1, "7");
         copies("behind a run", Made.code(1, 255, 7), 2, FINE, 2, "7 7");
         copies("behind nothing", Made.code(1, 0, 7, 128), 1, FINE, 1, "7");
+        copies("nothing, then a run", Made.code(1, 128, 255, 7, 128, 0, 8), 4, FINE, 3, "7 7 8 0");
         copies("nothing stands for nothing", Made.code(1, 128, 128), 0, FINE, 0, "");
     }
 

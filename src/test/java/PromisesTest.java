@@ -214,6 +214,16 @@ public final class PromisesTest {
         x.cut(0, 0);
         due("nothing", x.pack(0), 0);
         due("CODE is nothing", x.told(2), 0);
+        for (int how = 0; how < 2; how++) {
+            x = Made.rows(4, 9, 9, 9, 9);
+            checks.duePacked("a row", x, how, "4 9 0 0 0 1");
+            x.cut(0, 0);
+            x.repeat(4, 0);
+            checks.duePacked("another row", x, how, "0 0 0 1");
+            x.cut(0, 0);
+            Made.octets(x, 9, 0, 0, 0);
+            checks.duePacked("a third row", x, how, "1 9 0 0 0 1");
+        }
         checks.duePacked("marked nothing", new RunForms(0), "0 0");
         checks.duePacked("no rows", new RunForms(2), "0 1");
     }
@@ -370,12 +380,17 @@ public final class PromisesTest {
         x.plain(1);
         due("the only one", x.out(0), 5);
         checks.dueNoByte("behind all", x, 1);
+        checks.dueNoByte("further behind", x, 2);
+        checks.dueNoByte("where the largest PLAIN has one", x, 399);
+        checks.dueNoByte("where none has one", x, 400);
         checks.dueNoByte("below", x, -1);
         checks.dueNoByte("far above", x, HIGHEST);
         checks.dueNoByte("far below", x, LOWEST);
         x.plain(0);
         checks.dueNoByte("n was 0", x, 0);
+        x.plain(3);
         x.plain(1);
+        checks.dueNoByte("the one before had one", x, 1);
         x.plain(-1);
         checks.dueNoByte("n was below 0", x, 0);
         checks.dueNoByte("n was below 0", x, -1);
@@ -459,6 +474,9 @@ public final class PromisesTest {
             }
             due("whole ones", x.bound(4) > 0 ? 1 : 0, 1);
         }
+        due("-1 in rows of 1", Made.rows(1).bound(-1), BAD);
+        due("241 in rows of 1", Made.rows(1).bound(241), BAD);
+        due("-4 of four", Made.with(new RunForms(1), 0, 4).bound(-4), BAD);
         due("SOURCE is not looked at", Made.with(Made.source(0, 1), 0, 2).bound(2), 6);
         due("240 are no rows of 7", Made.rows(7).bound(240), BAD);
         due("238 are", Made.rows(7).bound(238), 2 + 34 * 12);

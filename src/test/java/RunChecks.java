@@ -48,7 +48,8 @@ final class RunChecks extends Checks {
         try {
             x.out(i);
         } catch (ArrayIndexOutOfBoundsException e) {
-            thrown = "ArrayIndexOutOfBoundsException";
+            // The machine's own tells the index; RunForms must not let the machine throw.
+            thrown = String.valueOf(e.getMessage()).startsWith("Index") ? "the machine's" : e.getClass().getSimpleName();
         }
         due(what + ", out(" + i + ") throws", thrown, "ArrayIndexOutOfBoundsException");
     }

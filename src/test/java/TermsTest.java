@@ -64,6 +64,15 @@ public final class TermsTest {
             due("240 opened", x.open(), 240);
             due("its last", x.at(0, 239), 3);
         }
+        int[] different = {242, 242, 362};
+        for (int form = 0; form < 3; form++) {
+            x = Made.with(Made.source(form, Made.upFrom(0, 240)), 2, 255);
+            due("240 different ones packed, greedy", x.pack(0), different[form]);
+            due("240 different ones packed, fewest", x.pack(1), different[form]);
+            x.cut(0, 0);
+            due("opened", x.open(), 240);
+            due("the last", x.at(0, 239), 239);
+        }
     }
 
     private static void codeRoom() {
@@ -255,6 +264,11 @@ public final class TermsTest {
         checks.duePacked("four bytes borrow", difference(4, 1, 0, 0, 0, 0, 255, 255, 255, 128, 0, 0, 0), 1,
                 "2 1 0 0 0 255 255 255 255 127 0 0 1");
         checks.duePacked("like ones become a run of 0", difference(1, 9, 9, 9, 9, 9), 1, "0 9 253 0");
+        checks.duePacked("255 and -1 are like ones", difference(1, 0, 255, 254, 253, 252), 1, "0 0 253 255");
+        checks.duePacked("so are 65535 and -1", difference(2, 0, 0, 255, 255, 255, 254, 255, 253), 1,
+                "0 0 0 254 255 255");
+        checks.duePacked("and of four bytes", difference(4, 255, 255, 255, 255, 255, 255, 255, 254), 1,
+                "255 255 255 255 255");
         RunForms x = Made.with(Made.source(0, 5, 12, 12), 2, 7, 3, 1);
         checks.duePacked("a difference may be the MARK", x, "5 7 1 7 0 7 0");
     }
